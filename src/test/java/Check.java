@@ -44,6 +44,8 @@ final class Check {
       call.on(loom);
     } catch (RuntimeException e) {
       thrown = e.getClass();
+      // A list's own refusal looks the same to the caller, but the program must look at the index itself.
+      sameText(what + ": thrown by", e.getStackTrace()[0].getClassName(), "PulseLoom");
     }
     if (thrown != kind) {
       fault(what + " threw " + thrown + ", due is " + kind);

@@ -327,6 +327,13 @@ public final class PromiseTest {
     check.same("20: nothing shone", loom.unfairness(), 5);
     loom.swapColours(0, 1);
     check.same("20: 21 and 10 less 6", loom.unfairness(), 25);
+    loom = new PulseLoom();
+    loom.addLamp(0, 4, 3, 9);
+    loom.addLamp(1, 4, 2, 1);
+    loom.addLamp(2, 4, 3, 1);
+    loom.setLimit(2);
+    loom.pass(4);
+    check.same("20: 3 less 0, the first least of all", loom.unfairness(), 3);
   }
 
   private static void together() {
@@ -507,9 +514,13 @@ public final class PromiseTest {
     PulseLoom loom = new PulseLoom();
     check.sameDouble("32: without lamps", loom.meanShone(), 0.0);
     loom.addLamp(0, 4, 3, 1);
+    loom.pass(4);
+    check.sameDouble("32: one lamp", loom.meanShone(), 3.0);
+    loom = new PulseLoom();
+    loom.addLamp(0, 4, 3, 1);
     loom.addLamp(0, 4, 1, 1);
     loom.addLamp(0, 4, 1, 1);
-    check.sameDouble("32: at first", loom.meanShone(), 0.0);
+    check.sameDouble("32: at first, three", loom.meanShone(), 0.0);
     loom.pass(4);
     check.sameDouble("32: 5 thirds", loom.meanShone(), 5.0 / 3.0);
     loom.setLimit(0);
@@ -525,6 +536,15 @@ public final class PromiseTest {
     loom.setShift(0, 1);
     loom.swapColours(0, 1);
     check.same("33: later", loom.digest(), digestByHand(loom));
+    loom = withPeriods(20, 12, 20);
+    loom.swapColours(0, 1);
+    loom.addLamp(4, 19, 5, 7);
+    loom.setShift(1, 1);
+    loom.setShift(2, 8);
+    loom.setLength(2, 3);
+    check.same("33: some not due", loom.digest(), digestByHand(loom));
+    loom.pass(11);
+    check.same("33: some not due, later", loom.digest(), digestByHand(loom));
     // beat 0, 0 lamps, limit 20, together 1, and 0 for all else: written out once, apart from the program's words.
     java.math.BigInteger d = java.math.BigInteger.valueOf(2297);
     int[] numbers = {0, 0, 20, 0, 0, 1, 0, 0, 0, 0, 0, 0, 0, 0, 0, 0};
