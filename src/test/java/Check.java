@@ -5,6 +5,11 @@ final class Check {
     void on(PulseLoom loom);
   }
 
+  /** A call with a number on a loom whose answer does not matter. */
+  interface NumberCall {
+    void on(PulseLoom loom, int number);
+  }
+
   /** Makes a loom in a certain state. */
   interface Maker {
     PulseLoom make();
@@ -51,6 +56,13 @@ final class Check {
       fault(what + " threw " + thrown + ", due is " + kind);
     }
     sameText(what + ": the state behind it", state(loom), state(maker.make()));
+  }
+
+  /** A number outside a range must be refused as a wrong argument, just outside and as far outside as an int goes. */
+  void refusedOutside(String what, int least, int most, Maker maker, NumberCall call) {
+    for (int number : new int[] {least - 1, most + 1, Integer.MIN_VALUE, Integer.MAX_VALUE}) {
+      refused(what + " " + number, IllegalArgumentException.class, maker, loom -> call.on(loom, number));
+    }
   }
 
   /** A call must throw nothing, and must change nothing. */

@@ -51,14 +51,6 @@ public final class PromiseTest {
     return loom;
   }
 
-  private static PulseLoom withPeriods(int... periods) {
-    PulseLoom loom = new PulseLoom();
-    for (int period : periods) {
-      loom.addLamp(0, period, 1, 1);
-    }
-    return loom;
-  }
-
   private static void newObject() {
     PulseLoom loom = new PulseLoom();
     check.same("1: lamps()", loom.lamps(), 0);
@@ -94,7 +86,7 @@ public final class PromiseTest {
   }
 
   private static void setShift() {
-    PulseLoom loom = withPeriods(2, 20);
+    PulseLoom loom = Looms.withPeriods(2, 20);
     check.same("3: before", loom.setShift(1, 19), 0);
     check.same("3: now", loom.shiftOf(1), 19);
     check.same("3: the other", loom.shiftOf(0), 0);
@@ -110,7 +102,7 @@ public final class PromiseTest {
   }
 
   private static void setLength() {
-    PulseLoom loom = withPeriods(5, 20);
+    PulseLoom loom = Looms.withPeriods(5, 20);
     check.same("4: before", loom.setLength(0, 4), 1);
     check.same("4: before, 4", loom.setLength(0, 3), 4);
     check.same("4: due", loom.dueIn(0, 5), 3);
@@ -129,7 +121,7 @@ public final class PromiseTest {
     check.same("5: third", loom.colourOf(1), 1);
     check.same("5: back", loom.swapColours(2, 0), true);
     check.same("5: one, back", loom.colourOf(0), 0);
-    loom = withPeriods(3, 4);
+    loom = Looms.withPeriods(3, 4);
     check.same("5: the same colour", loom.swapColours(0, 1), false);
     check.same("5: stays", loom.colourOf(0), 0);
   }
@@ -171,7 +163,7 @@ public final class PromiseTest {
   }
 
   private static void beat() {
-    PulseLoom loom = withPeriods(3);
+    PulseLoom loom = Looms.withPeriods(3);
     check.same("8: at first", loom.beat(), 0);
     loom.pass(1);
     check.same("8: one later", loom.beat(), 1);
@@ -216,7 +208,7 @@ public final class PromiseTest {
   }
 
   private static void phaseOf() {
-    PulseLoom loom = withPeriods(4, 7);
+    PulseLoom loom = Looms.withPeriods(4, 7);
     loom.setShift(1, 6);
     check.same("12: 0", loom.phaseOf(0), 0);
     check.same("12: shift", loom.phaseOf(1), 6);
@@ -265,7 +257,7 @@ public final class PromiseTest {
   }
 
   private static void shiftOf() {
-    PulseLoom loom = withPeriods(9, 9);
+    PulseLoom loom = Looms.withPeriods(9, 9);
     check.same("16: at first", loom.shiftOf(0), 0);
     loom.setShift(0, 8);
     loom.pass(5);
@@ -337,17 +329,17 @@ public final class PromiseTest {
   }
 
   private static void together() {
-    check.same("21: without lamps", withPeriods().together(), 1);
-    check.same("21: 2", withPeriods(2).together(), 2);
-    check.same("21: 20", withPeriods(20).together(), 20);
-    check.same("21: 4 and 6", withPeriods(4, 6).together(), 12);
-    check.same("21: 6, 10 and 15", withPeriods(6, 10, 15).together(), 30);
-    check.same("21: the same twice", withPeriods(9, 9).together(), 9);
-    check.same("21: the greatest", withPeriods(16, 9, 5, 7, 11, 13, 17, 19).together(), 232792560L);
+    check.same("21: without lamps", Looms.withPeriods().together(), 1);
+    check.same("21: 2", Looms.withPeriods(2).together(), 2);
+    check.same("21: 20", Looms.withPeriods(20).together(), 20);
+    check.same("21: 4 and 6", Looms.withPeriods(4, 6).together(), 12);
+    check.same("21: 6, 10 and 15", Looms.withPeriods(6, 10, 15).together(), 30);
+    check.same("21: the same twice", Looms.withPeriods(9, 9).together(), 9);
+    check.same("21: the greatest", Looms.withPeriods(16, 9, 5, 7, 11, 13, 17, 19).together(), 232792560L);
   }
 
   private static void divisor() {
-    PulseLoom loom = withPeriods(12, 18, 7, 6, 20, 2);
+    PulseLoom loom = Looms.withPeriods(12, 18, 7, 6, 20, 2);
     check.same("22: 12 and 18", loom.divisor(0, 1), 6);
     check.same("22: 18 and 12", loom.divisor(1, 0), 6);
     check.same("22: 12 and 7", loom.divisor(0, 2), 1);
@@ -357,7 +349,7 @@ public final class PromiseTest {
   }
 
   private static void meet() {
-    PulseLoom loom = withPeriods(4, 6, 7);
+    PulseLoom loom = Looms.withPeriods(4, 6, 7);
     check.same("23: all begin at once", loom.meet(0, 1), true);
     loom.setShift(0, 1);
     check.same("23: never", loom.meet(0, 1), false);
@@ -373,7 +365,7 @@ public final class PromiseTest {
   }
 
   private static void beatsUntilMeet() {
-    PulseLoom loom = withPeriods(4, 6, 20, 19);
+    PulseLoom loom = Looms.withPeriods(4, 6, 20, 19);
     check.same("24: now", loom.beatsUntilMeet(0, 1), 0);
     loom.pass(1);
     check.same("24: 11 later", loom.beatsUntilMeet(0, 1), 11);
@@ -391,25 +383,25 @@ public final class PromiseTest {
   }
 
   private static void meets() {
-    PulseLoom loom = withPeriods(4, 6, 8);
+    PulseLoom loom = Looms.withPeriods(4, 6, 8);
     check.same("25: both others", loom.meets(0), 2);
     loom.setShift(0, 1);
     check.same("25: none", loom.meets(0), 0);
     check.same("25: one", loom.meets(1), 1);
-    check.same("25: alone", withPeriods(5).meets(0), 0);
-    check.same("25: all seven", withPeriods(2, 3, 5, 7, 11, 13, 17, 19).meets(7), 7);
+    check.same("25: alone", Looms.withPeriods(5).meets(0), 0);
+    check.same("25: all seven", Looms.withPeriods(2, 3, 5, 7, 11, 13, 17, 19).meets(7), 7);
   }
 
   private static void apart() {
-    check.same("26: without lamps", withPeriods().apart(), 0);
-    check.same("26: one", withPeriods(5).apart(), 0);
-    PulseLoom loom = withPeriods(4, 6, 8, 5);
+    check.same("26: without lamps", Looms.withPeriods().apart(), 0);
+    check.same("26: one", Looms.withPeriods(5).apart(), 0);
+    PulseLoom loom = Looms.withPeriods(4, 6, 8, 5);
     check.same("26: none", loom.apart(), 0);
     loom.setShift(0, 1);
     check.same("26: two pairs", loom.apart(), 2);
     loom.setShift(1, 2);
     check.same("26: still two", loom.apart(), 2);
-    loom = withPeriods(8, 8, 8, 8, 8, 8, 8, 8);
+    loom = Looms.withPeriods(8, 8, 8, 8, 8, 8, 8, 8);
     for (int lamp = 0; lamp < 8; lamp++) {
       loom.setShift(lamp, lamp);
     }
@@ -417,9 +409,9 @@ public final class PromiseTest {
   }
 
   private static void bestShift() {
-    check.same("27: alone", withPeriods(5).bestShift(0), 0);
-    check.same("27: none helps", withPeriods(5, 7).bestShift(0), 0);
-    PulseLoom loom = withPeriods(4, 6, 8);
+    check.same("27: alone", Looms.withPeriods(5).bestShift(0), 0);
+    check.same("27: none helps", Looms.withPeriods(5, 7).bestShift(0), 0);
+    PulseLoom loom = Looms.withPeriods(4, 6, 8);
     check.same("27: smallest", loom.bestShift(0), 1);
     loom.setShift(0, 3);
     check.same("27: of several the smallest, not its own", loom.bestShift(0), 1);
@@ -428,13 +420,13 @@ public final class PromiseTest {
     check.same("27: past those that meet one each", loom.bestShift(0), 2);
     loom.setShift(0, 0);
     check.same("27: 4 meets 8 at each fourth", loom.meets(0), 1);
-    loom = withPeriods(2, 2, 2);
+    loom = Looms.withPeriods(2, 2, 2);
     loom.setShift(1, 1);
     check.same("27: one is met with each", loom.bestShift(0), 0);
-    loom = withPeriods(20, 20, 20);
+    loom = Looms.withPeriods(20, 20, 20);
     loom.setShift(1, 1);
     check.same("27: 2", loom.bestShift(0), 2);
-    loom = withPeriods(3, 3, 3);
+    loom = Looms.withPeriods(3, 3, 3);
     loom.setShift(1, 1);
     check.same("27: the greatest", loom.bestShift(0), 2);
   }
@@ -467,7 +459,7 @@ public final class PromiseTest {
     loom.setLimit(4);
     check.same("29: the least lamp", loom.brightest(200), 4);
     check.same("29: without lamps", new PulseLoom().brightest(200), 0);
-    loom = withPeriods(20, 19);
+    loom = Looms.withPeriods(20, 19);
     loom.pass(181);
     check.same("29: up to beat 379", loom.brightest(199), 1);
     check.same("29: up to beat 380", loom.brightest(200), 2);
@@ -529,52 +521,26 @@ public final class PromiseTest {
   }
 
   private static void digest() {
-    check.same("33: without lamps", new PulseLoom().digest(), digestByHand(new PulseLoom()));
-    check.same("33: crowded", crowded().digest(), digestByHand(crowded()));
+    check.same("33: without lamps", new PulseLoom().digest(), dueDigest(new PulseLoom()));
+    check.same("33: crowded", crowded().digest(), dueDigest(crowded()));
     PulseLoom loom = crowded();
     loom.pass(12);
     loom.setShift(0, 1);
     loom.swapColours(0, 1);
-    check.same("33: later", loom.digest(), digestByHand(loom));
-    loom = withPeriods(20, 12, 20);
+    check.same("33: later", loom.digest(), dueDigest(loom));
+    loom = Looms.withPeriods(20, 12, 20);
     loom.swapColours(0, 1);
     loom.addLamp(4, 19, 5, 7);
     loom.setShift(1, 1);
     loom.setShift(2, 8);
     loom.setLength(2, 3);
-    check.same("33: some not due", loom.digest(), digestByHand(loom));
+    check.same("33: some not due", loom.digest(), dueDigest(loom));
     loom.pass(11);
-    check.same("33: some not due, later", loom.digest(), digestByHand(loom));
-    // beat 0, 0 lamps, limit 20, together 1, and 0 for all else: written out once, apart from the program's words.
-    java.math.BigInteger d = java.math.BigInteger.valueOf(2297);
-    int[] numbers = {0, 0, 20, 0, 0, 1, 0, 0, 0, 0, 0, 0, 0, 0, 0, 0};
-    for (int x : numbers) {
-      d = d.multiply(java.math.BigInteger.valueOf(31)).add(java.math.BigInteger.valueOf(x));
-    }
-    check.same("33: written out", new PulseLoom().digest(), d.longValue());
+    check.same("33: some not due, later", loom.digest(), dueDigest(loom));
   }
 
-  private static long digestByHand(PulseLoom loom) {
-    java.util.List<Long> numbers = new java.util.ArrayList<>(java.util.List.of(
-        (long) loom.beat(), (long) loom.lamps(), (long) loom.limit(), (long) loom.power(), (long) loom.unfairness(),
-        loom.together(), (long) loom.apart(), (long) loom.brightest(12), (long) loom.unfairnessIn(12),
-        (long) loom.limitWanted(12)));
-    for (int lamp = 0; lamp < loom.lamps(); lamp++) {
-      numbers.addAll(java.util.List.of((long) loom.phaseOf(lamp), loom.isDue(lamp) ? 1L : 0L,
-          loom.shines(lamp) ? 1L : 0L, (long) loom.colourOf(lamp), (long) loom.shone(lamp),
-          (long) loom.stayedDark(lamp), (long) loom.meets(lamp), (long) loom.bestShift(lamp)));
-      for (int other = 0; other < loom.lamps(); other++) {
-        numbers.add((long) loom.beatsUntilMeet(lamp, other));
-      }
-    }
-    for (int colour = 0; colour < 6; colour++) {
-      numbers.add((long) loom.seen(colour));
-    }
-    long d = 2297;
-    for (long number : numbers) {
-      d = d * 31 + number;
-    }
-    return d;
+  private static long dueDigest(PulseLoom loom) {
+    return Digest.cutAtTheEnd(Digest.numbersOf(loom));
   }
 
   private static void lateBeats() {
