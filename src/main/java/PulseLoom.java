@@ -17,6 +17,7 @@ public final class PulseLoom {
 
   /** One lamp, with what was counted of it. */
   private static final class Lamp {
+    // Always 2 to 20; the looks at it ahead of each division are there because LANGUAGE.md asks for them.
     final int period;
     final int power;
     int colour;

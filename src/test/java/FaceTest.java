@@ -16,7 +16,9 @@ public final class FaceTest {
     check.same("public", Modifier.isPublic(modifiers), true);
     check.same("final", Modifier.isFinal(modifiers), true);
     check.sameText("the face", String.join("\n", membersThere()), String.join("\n", membersDue()));
+    check.same("one constructor", PulseLoom.class.getDeclaredConstructors().length, 1);
     noOtherMembers();
+    headings();
     check.end();
   }
 
@@ -86,5 +88,34 @@ public final class FaceTest {
         check.same(one + " is final", Modifier.isFinal(one.getModifiers()), true);
       }
     }
+  }
+
+  /** "Ahead of the calls .. the interface says: ..": the same headings with the same calls below them, in order. */
+  private static void headings() throws Exception {
+    StringBuilder due = new StringBuilder();
+    for (String line : Files.readAllLines(Path.of("../shared/DOC.md"))) {
+      if (line.startsWith("Ahead of the calls ")) {
+        int says = line.indexOf(" the interface says: ");
+        due.append(line.substring(line.indexOf("----"), line.length() - 1)).append(": ");
+        due.append(line.substring("Ahead of the calls ".length(), says).replace("`", "")).append('\n');
+      }
+    }
+    check.sameText("the headings", headingsThere(), due.toString());
+  }
+
+  private static String headingsThere() throws Exception {
+    StringBuilder there = new StringBuilder();
+    String between = ": ";
+    for (String line : Files.readAllLines(Path.of("src/main/java/PulseLoom.java"))) {
+      if (line.startsWith("  // ---- ")) {
+        there.append(there.length() == 0 ? "" : "\n").append(line.substring("  // ".length()));
+        between = ": ";
+      } else if (line.matches("  public \\w+ \\w+\\(.*")) {
+        there.append(between).append(line.substring(0, line.indexOf('(')).replaceAll(".* ", ""));
+        between = ", ";
+      }
+    }
+    // Private methods stand last, below a heading of their own without any call of the face.
+    return there.toString().replaceAll("---- [^:]*$", "");
   }
 }

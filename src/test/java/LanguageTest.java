@@ -12,7 +12,9 @@ public final class LanguageTest {
     "->", "::", "\\bpackage\\b", "\\bfinally\\b", "\\bsynchronized\\b", "\\bassert\\b", "\\bcatch\\b", "\\btry\\b",
     "Exact\\b", "\\bstatic \\{", "\\bhashCode\\b", "\\bequals\\b", "\\btoString\\b", "\\bSystem\\b", "\\bRandom\\b",
     "\\bString\\b", "\\bObject\\b", "\\bprotected\\b", "import (?!java\\.util\\.ArrayList;)", "for \\([^;]*:[^;]*\\)",
-    "throw new (?!IllegalArgument|IllegalState|IndexOutOfBounds)",
+    "throw new (?!IllegalArgument|IllegalState|IndexOutOfBounds)", "[^\\n -~]",
+    // What a call makes is counted: lamps, their list and exceptions alone.
+    "(?<!throw )new (?!Lamp\\(|ArrayList<Lamp>\\()",
   };
 
   private static final Check check = new Check();
